@@ -1,0 +1,65 @@
+/** What the tests need of a display beyond single calls. */
+final class Display {
+    private Display() {
+    }
+
+    /** All that a display tells, as one text; no call of it is an act. */
+    static String tells(ScannedDigits x) {
+        StringBuilder told = new StringBuilder();
+        for (int what = 0; what <= 13; what++) {
+            told.append(what == 0 ? "count " : " ").append(x.count(what));
+        }
+        for (int what = 0; what <= 2; what++) {
+            told.append(" / ").append(x.current(what)).append(' ').append(x.thousandths(what));
+        }
+        for (int group = 0; group <= 3; group++) {
+            told.append("\ngroup ").append(group).append(':');
+            for (int what = 0; what <= 3; what++) {
+                told.append(' ').append(x.group(group, what));
+            }
+        }
+        for (int digit = 0; digit <= 8; digit++) {
+            told.append("\ndigit ").append(digit).append(':');
+            tellDigit(x, digit, told);
+        }
+        return told.toString();
+    }
+
+    private static void tellDigit(ScannedDigits x, int digit, StringBuilder told) {
+        for (int what = 0; what <= 11; what++) {
+            told.append(' ').append(x.digit(digit, what));
+        }
+        told.append(' ').append(x.duty(digit)).append(' ').append(x.steadyGlow(digit));
+        for (int segment = 0; segment < 8; segment++) {
+            told.append(" [");
+            for (int what = 0; what <= 3; what++) {
+                told.append(x.segment(digit, segment, what)).append(what < 3 ? " " : "]");
+            }
+        }
+        told.append(" lit");
+        for (int ticks = 0; ticks <= 500; ticks += 25) {
+            told.append(' ').append(x.litIn(digit, ticks));
+        }
+    }
+
+    static void typeAll(ScannedDigits x, String text) {
+        x.clearText();
+        for (int i = 0; i < text.length(); i++) {
+            x.type(text.charAt(i));
+        }
+    }
+
+    /** Types and shows a text in place of the one that was there. */
+    static int show(ScannedDigits x, String text) {
+        typeAll(x, text);
+        return x.show();
+    }
+
+    static String patterns(ScannedDigits x) {
+        StringBuilder told = new StringBuilder();
+        for (int digit = 0; digit < x.count(1); digit++) {
+            told.append(digit == 0 ? "" : " ").append(x.digit(digit, 0));
+        }
+        return told.toString();
+    }
+}
