@@ -1,5 +1,11 @@
 /** What the tests need of a display beyond single calls. */
 final class Display {
+    /** The characters of the document's table, and the pattern of each. */
+    static final String TABLE = "0123456789- Ero";
+    static final int[] BITS = {
+        63, 6, 91, 79, 102, 109, 125, 7, 127, 111, 64, 0, 121, 80, 92
+    };
+
     private Display() {
     }
 
@@ -28,6 +34,11 @@ final class Display {
             }
         }
         return told.toString();
+    }
+
+    /** The same without the length of the history and of the text, which no state holds. */
+    static String state(ScannedDigits x) {
+        return tells(x).replace(" " + x.count(12) + " " + x.count(13) + " / ", " / ");
     }
 
     private static void tellDigit(ScannedDigits x, int digit, StringBuilder told) {

@@ -262,11 +262,6 @@ public final class HistoryEdgesTest {
         return x;
     }
 
-    private static String stateOf(ScannedDigits x) {
-        String history = " " + x.count(12) + " " + x.count(13) + " / ";
-        return Display.tells(x).replace(history, " / ");
-    }
-
     /** Five acts that together change all that a state holds. */
     private static void changeAll(ScannedDigits x, int way) {
         if (way == 0) {
@@ -300,13 +295,13 @@ public final class HistoryEdgesTest {
         for (int way = 0; way < 4; way++) {
             ScannedDigits x = used();
             changeAll(x, way);
-            Check.due("changed", stateOf(x).equals(stateOf(used())) ? 1 : 0, 0);
+            Check.due("changed", Display.state(x).equals(Display.state(used())) ? 1 : 0, 0);
             ScannedDigits y = used();
             changeAll(y, way);
             for (int undo = 0; undo < 5; undo++) {
                 y.undo();
             }
-            Check.dueText("undone in way " + way, stateOf(y), stateOf(used()));
+            Check.dueText("undone in way " + way, Display.state(y), Display.state(used()));
             // Behind it, all goes on as if nothing had been done.
             ScannedDigits z = used();
             changeAll(z, way);
@@ -316,7 +311,7 @@ public final class HistoryEdgesTest {
             z.pass(333);
             ScannedDigits same = used();
             same.pass(333);
-            Check.dueText("what follows in way " + way, stateOf(z), stateOf(same));
+            Check.dueText("what follows in way " + way, Display.state(z), Display.state(same));
         }
     }
 
@@ -404,7 +399,7 @@ public final class HistoryEdgesTest {
             changeAll(x, way);
             x.restore(slot);
             // The text is empty in both; the history is left out.
-            Check.dueText("restored in way " + way, stateOf(x), stateOf(used()));
+            Check.dueText("restored in way " + way, Display.state(x), Display.state(used()));
             ScannedDigits y = used();
             y.keep(slot);
             changeAll(y, way);
@@ -412,7 +407,7 @@ public final class HistoryEdgesTest {
             y.passFrames(4);
             ScannedDigits same = used();
             same.passFrames(4);
-            Check.dueText("what follows in way " + way, stateOf(y), stateOf(same));
+            Check.dueText("what follows in way " + way, Display.state(y), Display.state(same));
         }
     }
 

@@ -8,10 +8,8 @@ import java.util.List;
  * program: lists, new states by copying, and the lit ticks of a frame written out.
  */
 final class Model {
-    private static final String TABLE = "0123456789- Ero";
-    private static final int[] BITS = {
-        63, 6, 91, 79, 102, 109, 125, 7, 127, 111, 64, 0, 121, 80, 92
-    };
+    private static final String TABLE = Display.TABLE;
+    private static final int[] BITS = Display.BITS;
 
     private static final class Cell {
         int width = 10;

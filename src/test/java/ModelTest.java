@@ -1,13 +1,17 @@
 /** Long mixed runs of calls, each answered by the program and by the Model. */
 public final class ModelTest {
     private static final String TYPED = "0123456789- Ero....x";
-    private static final int RUNS = 80;
+    private static final int RUNS = 400;
     /** An object is used for at most 512 calls. */
     private static final int CALLS = 512;
+    /** The most calls of the program that one step makes, and those that tell all behind a run. */
+    private static final int CALLS_OF_A_STEP = 10;
+    private static final int CALLS_OF_THE_END = 100;
 
     private final ScannedDigits program = new ScannedDigits();
     private final Model model = new Model();
     private long seed;
+    private int calls;
 
     private ModelTest(long seed) {
         this.seed = seed;
@@ -16,8 +20,11 @@ public final class ModelTest {
     public static void main(String[] args) {
         for (int run = 0; run < RUNS && Check.wrongAnswers() == 0; run++) {
             ModelTest test = new ModelTest(run);
-            for (int call = 1; call <= CALLS; call++) {
-                test.oneCall("run " + run + ", call " + call + ": ");
+            while (test.calls <= CALLS - CALLS_OF_THE_END - CALLS_OF_A_STEP) {
+                test.step("run " + run + ", about call " + test.calls + ": ");
+            }
+            for (int what = -1; what <= 14; what++) {
+                test.tell("run " + run + ", its end: ", what);
             }
         }
         Check.end();
@@ -44,18 +51,24 @@ public final class ModelTest {
         return kind < 8 ? most : kind < 14 ? least : least + random(most - least + 1);
     }
 
-    private void oneCall(String run) {
+    private void step(String run) {
         int kind = random(100);
         if (kind < 35) {
             set(run, random(10));
+            calls += 3;
         } else if (kind < 50) {
             pass(run);
+            calls++;
         } else if (kind < 65) {
             texts(run);
+            calls++;
         } else if (kind < 75) {
             history(run);
+            calls++;
         } else {
-            tell(run);
+            tellOfTheFuture(run);
+            tell(run, random(16) - 1);
+            calls += 10;
         }
     }
 
@@ -138,23 +151,24 @@ public final class ModelTest {
         }
     }
 
-    private void tell(String run) {
-        int digit = near(0, program.count(1) - 1);
-        int segment = near(0, 7);
+    private void tellOfTheFuture(String run) {
+        int digit = near(0, random(2) == 0 ? 3 : 7);
         int ticks = near(0, random(4) == 0 ? 500 : 80);
         Check.due(run + "litIn", program.litIn(digit, ticks), model.litIn(digit, ticks));
         Check.due(run + "steadyGlow", program.steadyGlow(digit), model.steadyGlow(digit));
         Check.dueFloat(run + "duty", program.duty(digit), model.duty(digit));
-        for (int what = -1; what <= 14; what++) {
-            Check.due(run + "count " + what, program.count(what), model.count(what));
-            Check.due(run + "digit " + what, program.digit(digit, what), model.digit(digit, what));
-            Check.due(run + "segment " + what, program.segment(digit, segment, what),
-                model.segment(digit, segment, what));
-            Check.due(run + "group " + what, program.group(segment & 3, what),
-                model.group(segment & 3, what));
-            Check.dueFloat(run + "current " + what, program.current(what), model.current(what));
-            Check.due(run + "thousandths " + what, program.thousandths(what),
-                model.thousandths(what));
-        }
+    }
+
+    private void tell(String run, int what) {
+        int digit = near(0, random(2) == 0 ? 3 : 7);
+        int segment = near(0, 7);
+        Check.due(run + "count " + what, program.count(what), model.count(what));
+        Check.due(run + "digit " + what, program.digit(digit, what), model.digit(digit, what));
+        Check.due(run + "segment " + what, program.segment(digit, segment, what),
+            model.segment(digit, segment, what));
+        Check.due(run + "group " + what, program.group(segment & 3, what),
+            model.group(segment & 3, what));
+        Check.dueFloat(run + "current " + what, program.current(what), model.current(what));
+        Check.due(run + "thousandths " + what, program.thousandths(what), model.thousandths(what));
     }
 }

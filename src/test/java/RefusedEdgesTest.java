@@ -19,7 +19,8 @@ public final class RefusedEdgesTest {
     }
 
     private static void settings() {
-        Sentences.holds("2: BAD_VALUE", () -> badValue("setDigits", ScannedDigits::setDigits, 1, 8));
+        Sentences.holds("2: BAD_VALUE",
+            () -> badValue("setDigits", ScannedDigits::setDigits, 1, 8));
         Sentences.holds("3: UNKNOWN; BAD_VALUE",
             () -> ofADigit("setWidth", ScannedDigits::setWidth, 4, 40, -2));
         Sentences.holds("4: UNKNOWN; BAD_VALUE",
@@ -47,7 +48,8 @@ public final class RefusedEdgesTest {
             RefusedEdgesTest::showFault);
         Sentences.holds("17: NONE", RefusedEdgesTest::undoNone);
         Sentences.holds("18: UNKNOWN", () -> unknown("keep", ScannedDigits::keep, 0, 1));
-        Sentences.holds("19: UNKNOWN; [..]", () -> unknown("restore", ScannedDigits::restore, 0, 1));
+        Sentences.holds("19: UNKNOWN; [..]",
+            () -> unknown("restore", ScannedDigits::restore, 0, 1));
         Sentences.holds("19: NONE", RefusedEdgesTest::restoreNone);
     }
 
@@ -63,7 +65,7 @@ public final class RefusedEdgesTest {
         Sentences.holds("23: UNKNOWN",
             () -> unknownDigit("steadyGlow", (x, d, v) -> x.steadyGlow(d), 0));
         Sentences.holds("24: 0 if what is out of range",
-            () -> outOfRange("current", (x, what) -> Float.floatToIntBits(x.current(what)), 0, 2, 0));
+            () -> outOfRange("current", RefusedEdgesTest::currentBits, 0, 2, 0));
         Sentences.holds("25: BAD_VALUE",
             () -> badValue("thousandths", ScannedDigits::thousandths, 0, 2));
         Sentences.holds("26: 0 if [..] there is no such digit", RefusedEdgesTest::dutyOfNoDigit);
@@ -236,6 +238,10 @@ public final class RefusedEdgesTest {
     private static void segmentBadValue() {
         badValue("segment 0", (x, what) -> x.segment(0, 0, what), 0, 3);
         badValue("segment 7", (x, what) -> x.segment(x.count(1) - 1, 7, what), 0, 3);
+    }
+
+    private static int currentBits(ScannedDigits x, int what) {
+        return Float.floatToIntBits(x.current(what));
     }
 
     private static void dutyOfNoDigit() {

